@@ -19,15 +19,16 @@ public final class SnowTest {
     }
 
     private static void newObject() {
-        SnowMaze maze = new SnowMaze();
         for (int y = 0; y < 16; y++) {
+            SnowMaze row = new SnowMaze();
             for (int x = 0; x < 16; x++) {
-                due.is("new: sort", maze.cell(x, y, 0), 3);
+                due.is("new: sort", row.cell(x, y, 0), 3);
                 for (int what = 1; what <= 5; what++) {
-                    due.is("new: cell " + what, maze.cell(x, y, what), 0);
+                    due.is("new: cell " + what, row.cell(x, y, what), 0);
                 }
             }
         }
+        SnowMaze maze = new SnowMaze();
         for (int what = 0; what <= 8; what++) {
             due.is("new: count " + what, maze.count(what), 0);
         }
