@@ -10,6 +10,7 @@ public final class AheadTest {
         meetWrong();
         foreseeTells();
         foreseeIsWhatComes();
+        foreseeStartsAfresh();
         foreseeWrong();
         withoutCounts();
         withoutWrong();
@@ -183,6 +184,34 @@ public final class AheadTest {
             passed.pass(3);
         }
         due.is("nothing is changed", asked.digest(), busyMaze().digest());
+    }
+
+    /** What was foreseen before leaves nothing behind, neither for the next look nor for the calls. */
+    private static void foreseeStartsAfresh() {
+        SnowMaze maze = new SnowMaze();
+        maze.come(4, 4, 1, 3);
+        maze.order(0, 4, 1);
+        maze.order(0, 1, 1);
+        maze.pass(1);
+        due.is("a post that stands holds", maze.foresee(50, 1), 2);
+        maze.lay(12, 12, 0);
+        maze.come(9, 9, 0, 1);
+        maze.order(1, 5, 4);
+        due.is("open behind 11 ticks", maze.foresee(11, 1), 4);
+        due.is("open behind 12 ticks", maze.foresee(12, 1), 2);
+        due.is("buried", maze.foresee(12, 0), 1);
+        due.is("orders", maze.foresee(2, 3), 3);
+        due.is("orders, once more", maze.foresee(2, 3), 3);
+        due.is("they do not meet", maze.meet(0, 1, 100), -1);
+        maze.call(1);
+        due.is("orders taken back", maze.foresee(2, 3), 1);
+        maze.lay(9, 8, 10);
+        maze.come(9, 9, 0, 0);
+        due.is("buried with the new one", maze.foresee(12, 0), 2);
+        due.is("they stand together", maze.meet(1, 2, 1), 0);
+        maze.pass(3);
+        due.is("the ice stays", maze.cell(9, 8, 0), 10);
+        due.is("tick", maze.count(0), 4);
     }
 
     private static void foreseeWrong() {

@@ -23,9 +23,15 @@ public final class ModelTest {
     private ModelTest(int run) {
         random = new Random(run);
         width = new int[] {2, 4, 6, 16}[run % 4];
-        left = random.nextInt(17 - width);
-        top = random.nextInt(17 - width);
+        left = place(run % 5);
+        top = place(run % 7);
         longestPass = run % 3 == 0 ? 3 : 12;
+    }
+
+    /** Some runs lie at the edges, most anywhere. */
+    private int place(int choice) {
+        int last = 16 - width;
+        return choice == 0 ? 0 : choice == 1 ? last : random.nextInt(last + 1);
     }
 
     public static void main(String[] args) {

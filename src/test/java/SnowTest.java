@@ -14,6 +14,7 @@ public final class SnowTest {
         cellLit();
         cellLitSnowAndIce();
         cellCrew();
+        cellsAtTheCorners();
         cellWrong();
         due.end();
     }
@@ -237,6 +238,31 @@ public final class SnowTest {
         due.is("none there", maze.cell(3, 1, 5), 0);
         maze.pass(12);
         due.is("two buried there", maze.cell(1, 1, 5), 2);
+    }
+
+    private static void cellsAtTheCorners() {
+        for (int corner = 0; corner < 4; corner++) {
+            int x = corner % 2 * 15;
+            int y = corner / 2 * 15;
+            SnowMaze maze = new SnowMaze();
+            maze.come(x, y, 1, 1);
+            maze.order(0, 4, 1);
+            maze.pass(1);
+            int[] want = {0, 1, 1, 1, 1, 1};
+            for (int what = 0; what <= 5; what++) {
+                due.is("corner " + corner + " tells " + what, maze.cell(x, y, what), want[what]);
+            }
+            due.is("posts", maze.count(4), 1);
+            due.is("lit: the corner and two beside it", maze.count(6), 3);
+            due.is("open cells whose roofs are not held", maze.count(7), 0);
+            due.is("caves with a tunneller", maze.caves(2), 1);
+            due.is("held for long", maze.foresee(100, 0), 0);
+            maze.lay(8, 8, 0);
+            due.is("one of both falls", maze.foresee(20, 1), 1);
+            maze.pass(20);
+            due.is("one of both fell", maze.count(3), 1);
+            due.is("it is the other one", maze.cell(x, y, 0), 0);
+        }
     }
 
     private static void cellWrong() {
