@@ -621,12 +621,12 @@ public final class SnowMaze {
         // ---- a tick
 
         void tick() {
-            for (int i = 0; i < crewSize; i++) {
+            for (int i = 0; i < crewSize && i < MOST_TUNNELLERS; i++) {
                 if (!crew[i].buried) {
                     crew[i].burnOil();
                 }
             }
-            for (int i = 0; i < crewSize; i++) {
+            for (int i = 0; i < crewSize && i < MOST_TUNNELLERS; i++) {
                 if (!crew[i].buried) {
                     act(crew[i]);
                 }
@@ -693,7 +693,7 @@ public final class SnowMaze {
         }
 
         private Tunneller partnerOf(Tunneller who) {
-            for (int i = 0; i < crewSize; i++) {
+            for (int i = 0; i < crewSize && i < MOST_TUNNELLERS; i++) {
                 Tunneller other = crew[i];
                 if (other != who && !other.buried && isNear(other.place, who.place)) {
                     return other;
@@ -722,7 +722,7 @@ public final class SnowMaze {
         }
 
         private void setBuriedAt(int place, boolean buried) {
-            for (int i = 0; i < crewSize; i++) {
+            for (int i = 0; i < crewSize && i < MOST_TUNNELLERS; i++) {
                 if (crew[i].place == place) {
                     crew[i].buried = buried;
                 }
@@ -754,7 +754,7 @@ public final class SnowMaze {
         /** Finds the open cells that are lit; cells of snow are lit through these. */
         private void findLight() {
             reach.clear();
-            for (int i = 0; i < crewSize; i++) {
+            for (int i = 0; i < crewSize && i < MOST_TUNNELLERS; i++) {
                 if (!crew[i].buried && crew[i].oil > 0) {
                     reach.add(crew[i].place, 0);
                 }
@@ -839,7 +839,7 @@ public final class SnowMaze {
         int cavesWithCrew() {
             reach.clear();
             int found = 0;
-            for (int i = 0; i < crewSize; i++) {
+            for (int i = 0; i < crewSize && i < MOST_TUNNELLERS; i++) {
                 if (!crew[i].buried && !reach.holds(crew[i].place)) {
                     reach.add(crew[i].place, 0);
                     reach.spread(snow, CELLS);
@@ -862,7 +862,7 @@ public final class SnowMaze {
 
         int crewAt(int place) {
             int found = 0;
-            for (int i = 0; i < crewSize; i++) {
+            for (int i = 0; i < crewSize && i < MOST_TUNNELLERS; i++) {
                 if (crew[i].place == place) {
                     found++;
                 }
@@ -872,7 +872,7 @@ public final class SnowMaze {
 
         int buriedAt(int place) {
             int found = 0;
-            for (int i = 0; i < crewSize; i++) {
+            for (int i = 0; i < crewSize && i < MOST_TUNNELLERS; i++) {
                 if (crew[i].place == place && crew[i].buried) {
                     found++;
                 }
@@ -882,7 +882,7 @@ public final class SnowMaze {
 
         int buriedCrew() {
             int found = 0;
-            for (int i = 0; i < crewSize; i++) {
+            for (int i = 0; i < crewSize && i < MOST_TUNNELLERS; i++) {
                 if (crew[i].buried) {
                     found++;
                 }
@@ -892,7 +892,7 @@ public final class SnowMaze {
 
         int openedByCrew() {
             int sum = 0;
-            for (int i = 0; i < crewSize; i++) {
+            for (int i = 0; i < crewSize && i < MOST_TUNNELLERS; i++) {
                 sum += crew[i].opened;
             }
             return sum;
@@ -900,7 +900,7 @@ public final class SnowMaze {
 
         int oilOfCrew() {
             int sum = 0;
-            for (int i = 0; i < crewSize; i++) {
+            for (int i = 0; i < crewSize && i < MOST_TUNNELLERS; i++) {
                 sum += crew[i].oil;
             }
             return sum;
@@ -908,7 +908,7 @@ public final class SnowMaze {
 
         int ordersOfCrew() {
             int sum = 0;
-            for (int i = 0; i < crewSize; i++) {
+            for (int i = 0; i < crewSize && i < MOST_TUNNELLERS; i++) {
                 sum += crew[i].ordersLeft;
             }
             return sum;

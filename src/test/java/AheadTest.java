@@ -7,13 +7,10 @@ public final class AheadTest {
         meetLater();
         meetInPassing();
         meetNotBuried();
-        meetWrong();
         foreseeTells();
         foreseeIsWhatComes();
         foreseeStartsAfresh();
-        foreseeWrong();
         withoutCounts();
-        withoutWrong();
         lightShare();
         digestOfNew();
         digestOfAll();
@@ -108,24 +105,6 @@ public final class AheadTest {
         due.is("nothing is changed", maze.tunneller(0, 7), 1);
     }
 
-    private static void meetWrong() {
-        SnowMaze maze = new SnowMaze();
-        due.bounds(maze, "meet where nobody is", () -> maze.meet(0, 0, 0));
-        maze.come(4, 4, 0, 1);
-        maze.come(4, 4, 0, 1);
-        for (int bad : new int[] {-1, 2, 8, Integer.MIN_VALUE, Integer.MAX_VALUE}) {
-            due.bounds(maze, "meet(" + bad + ", 0, 1)", () -> maze.meet(bad, 0, 1));
-            due.bounds(maze, "meet(0, " + bad + ", 1)", () -> maze.meet(0, bad, 1));
-            due.bounds(maze, "meet(0, " + bad + ", 0)", () -> maze.meet(0, bad, 0));
-            due.bounds(maze, "meet(" + bad + ", " + bad + ", 1)", () -> maze.meet(bad, bad, 1));
-        }
-        for (int bad : new int[] {-1, 0, 101, Integer.MIN_VALUE, Integer.MAX_VALUE}) {
-            due.argument(maze, "meet(0, 1, " + bad + ")", () -> maze.meet(0, 1, bad));
-        }
-        due.argument(maze, "meet(0, 0, 1)", () -> maze.meet(0, 0, 1));
-        due.argument(maze, "meet(1, 1, 100)", () -> maze.meet(1, 1, 100));
-    }
-
     private static void foreseeTells() {
         SnowMaze maze = new SnowMaze();
         maze.come(4, 4, 1, 2);
@@ -214,18 +193,6 @@ public final class AheadTest {
         due.is("tick", maze.count(0), 4);
     }
 
-    private static void foreseeWrong() {
-        SnowMaze maze = new SnowMaze();
-        maze.come(4, 4, 0, 1);
-        for (int bad : new int[] {-1, 0, 101, Integer.MIN_VALUE, Integer.MAX_VALUE}) {
-            due.argument(maze, "foresee(" + bad + ", 0)", () -> maze.foresee(bad, 0));
-            due.argument(maze, "foresee(" + bad + ", 4)", () -> maze.foresee(bad, 4));
-        }
-        for (int bad : new int[] {-1, 4, Integer.MIN_VALUE, Integer.MAX_VALUE}) {
-            due.bounds(maze, "foresee(1, " + bad + ")", () -> maze.foresee(1, bad));
-        }
-    }
-
     private static void withoutCounts() {
         SnowMaze maze = new SnowMaze();
         due.is("snow", maze.without(4, 4), -1);
@@ -255,15 +222,6 @@ public final class AheadTest {
         last.lay(0, 15, 0);
         due.is("the last cell", last.without(15, 15), 1);
         due.is("the last row's first cell", last.without(0, 15), 1);
-    }
-
-    private static void withoutWrong() {
-        SnowMaze maze = new SnowMaze();
-        maze.lay(0, 0, 0);
-        for (int bad : new int[] {-1, 16, 256, Integer.MIN_VALUE, Integer.MAX_VALUE}) {
-            due.bounds(maze, "without(" + bad + ", 0)", () -> maze.without(bad, 0));
-            due.bounds(maze, "without(0, " + bad + ")", () -> maze.without(0, bad));
-        }
     }
 
     private static void lightShare() {
@@ -338,23 +296,20 @@ public final class AheadTest {
     }
 
     private static void askingChangesNothing() {
-        SnowMaze maze = new SnowMaze();
-        maze.come(4, 9, 3, 2);
-        maze.come(8, 9, 0, 1);
-        maze.order(0, 4, 1);
-        maze.order(0, 1, 9);
-        maze.order(1, 6, 9);
-        maze.pass(5);
-        String before = Picture.of(maze);
-        long digest = maze.digest();
-        maze.meet(0, 1, 100);
-        maze.foresee(100, 0);
-        maze.without(5, 9);
-        maze.way(4, 9, 8, 9);
-        maze.dig(4, 9, 15, 15);
-        maze.caves(1);
-        maze.light();
-        due.is("digest", maze.digest(), digest);
-        due.is("all that it tells", Picture.of(maze).equals(before) ? 1 : 0, 1);
+        SnowMaze asked = Mazes.full();
+        asked.cell(9, 9, 4);
+        asked.tunneller(1, 6);
+        asked.count(6);
+        asked.way(6, 6, 7, 6);
+        asked.dig(2, 2, 15, 15);
+        asked.caves(1);
+        asked.meet(1, 2, 100);
+        asked.without(6, 6);
+        asked.light();
+        asked.digest();
+        for (int what = 0; what <= 3; what++) {
+            asked.foresee(100, what);
+        }
+        due.alike("whether asked or not", asked, Mazes.full());
     }
 }

@@ -1,21 +1,16 @@
 /** Promises 4 to 7: come, order, call, tunneller. */
 public final class CrewTest {
     private static final Due due = new Due();
-    private static final int[] OUTSIDE = {-1, 16, 256, Integer.MIN_VALUE, Integer.MAX_VALUE};
 
     public static void main(String[] args) {
         comeNumbers();
         comeOpensSnow();
         comeOnOpenCellKeepsIt();
-        comeWrong();
-        comeWhereNobodyCan();
+        comeBesideTheBuried();
         orderAnswers();
-        orderWrong();
         orderRoom();
         callTakesBack();
-        callWrong();
         tunnellerTells();
-        tunnellerWrong();
         due.end();
     }
 
@@ -36,9 +31,6 @@ public final class CrewTest {
             due.is("buried", maze.tunneller(number, 7), 0);
             due.is("opened", maze.tunneller(number, 8), 0);
         }
-        due.state(maze, "a ninth", () -> maze.come(1, 1, 0, 0));
-        due.argument(maze, "a ninth with 21 posts", () -> maze.come(1, 1, 21, 0));
-        due.bounds(maze, "a ninth outside", () -> maze.come(1, 16, 0, 0));
     }
 
     private static void comeOpensSnow() {
@@ -71,36 +63,20 @@ public final class CrewTest {
         due.is("the age of an open cell stays", maze.cell(4, 4, 1), 2);
     }
 
-    private static void comeWrong() {
+    /** Where somebody is buried, nobody can come; but beside, and there again when this one is dug free. */
+    private static void comeBesideTheBuried() {
         SnowMaze maze = new SnowMaze();
-        maze.lay(1, 0, 10);
-        for (int bad : OUTSIDE) {
-            due.bounds(maze, "come(" + bad + ", 0, 0, 0)", () -> maze.come(bad, 0, 0, 0));
-            due.bounds(maze, "come(0, " + bad + ", 0, 0)", () -> maze.come(0, bad, 0, 0));
-            due.bounds(maze, "come(0, " + bad + ", 21, 10)", () -> maze.come(0, bad, 21, 10));
-        }
-        for (int bad : new int[] {-1, 21, Integer.MIN_VALUE, Integer.MAX_VALUE}) {
-            due.argument(maze, "come(0, 0, " + bad + ", 0)", () -> maze.come(0, 0, bad, 0));
-            due.argument(maze, "come onto ice with posts " + bad, () -> maze.come(1, 0, bad, 0));
-        }
-        for (int bad : new int[] {-1, 10, Integer.MIN_VALUE, Integer.MAX_VALUE}) {
-            due.argument(maze, "come(0, 0, 0, " + bad + ")", () -> maze.come(0, 0, 0, bad));
-            due.argument(maze, "come onto ice with lamps " + bad, () -> maze.come(1, 0, 0, bad));
-        }
-        due.is("20 posts and 9 lamps are not too many", maze.come(0, 0, 20, 9), 0);
-        due.is("nothing is enough", maze.come(0, 0, 0, 0), 1);
-    }
-
-    private static void comeWhereNobodyCan() {
-        SnowMaze maze = new SnowMaze();
-        maze.lay(1, 1, 10);
-        due.state(maze, "come onto ice", () -> maze.come(1, 1, 0, 0));
         maze.come(5, 5, 0, 0);
         maze.pass(12);
         due.is("buried", maze.tunneller(0, 7), 1);
-        due.state(maze, "come where somebody is buried", () -> maze.come(5, 5, 0, 0));
-        due.is("come beside", maze.come(6, 5, 0, 0), 1);
+        due.is("come beside", maze.come(6, 5, 0, 1), 1);
         due.is("the snow of the buried one stays", maze.cell(5, 5, 0), 2);
+        due.is("still buried", maze.tunneller(0, 7), 1);
+        maze.order(1, 3, 1);
+        maze.pass(2);
+        due.is("dug free", maze.tunneller(0, 7), 0);
+        due.is("come where somebody was buried", maze.come(5, 5, 0, 0), 2);
+        due.is("three there", maze.cell(5, 5, 5), 3);
     }
 
     private static void orderAnswers() {
@@ -130,33 +106,12 @@ public final class CrewTest {
         }
     }
 
-    private static void orderWrong() {
-        SnowMaze maze = new SnowMaze();
-        due.bounds(maze, "order where nobody is", () -> maze.order(0, 0, 1));
-        maze.come(5, 5, 0, 0);
-        maze.order(0, 0, 9);
-        maze.order(0, 0, 9);
-        for (int bad : new int[] {-1, 1, 8, Integer.MIN_VALUE, Integer.MAX_VALUE}) {
-            due.bounds(maze, "order(" + bad + ", 0, 1)", () -> maze.order(bad, 0, 1));
-            due.bounds(maze, "order(" + bad + ", 7, 0)", () -> maze.order(bad, 7, 0));
-        }
-        for (int bad : new int[] {-1, 7, Integer.MIN_VALUE, Integer.MAX_VALUE}) {
-            due.argument(maze, "order(0, " + bad + ", 1)", () -> maze.order(0, bad, 1));
-            due.argument(maze, "order too many of " + bad, () -> maze.order(0, bad, 9));
-        }
-        for (int bad : new int[] {-1, 0, 10, Integer.MIN_VALUE, Integer.MAX_VALUE}) {
-            due.argument(maze, "order(0, 0, " + bad + ")", () -> maze.order(0, 0, bad));
-        }
-    }
-
     private static void orderRoom() {
         SnowMaze maze = new SnowMaze();
         maze.come(5, 5, 0, 0);
         maze.order(0, 5, 9);
         maze.order(0, 5, 9);
-        due.state(maze, "25 orders", () -> maze.order(0, 5, 7));
         due.is("24 orders", maze.order(0, 6, 6), 24);
-        due.state(maze, "one more than 24", () -> maze.order(0, 0, 1));
         maze.pass(1);
         due.is("one is done, one more fits", maze.order(0, 4, 1), 24);
         maze.pass(11);
@@ -181,16 +136,6 @@ public final class CrewTest {
         due.is("call of a buried one", maze.call(0), 1);
     }
 
-    private static void callWrong() {
-        SnowMaze maze = new SnowMaze();
-        due.bounds(maze, "call where nobody is", () -> maze.call(0));
-        maze.come(5, 5, 0, 0);
-        maze.order(0, 0, 2);
-        for (int bad : new int[] {-1, 1, 8, Integer.MIN_VALUE, Integer.MAX_VALUE}) {
-            due.bounds(maze, "call(" + bad + ")", () -> maze.call(bad));
-        }
-    }
-
     private static void tunnellerTells() {
         SnowMaze maze = new SnowMaze();
         maze.come(14, 3, 4, 3);
@@ -202,18 +147,6 @@ public final class CrewTest {
         int[] want = {15, 3, 3, 2, 59, 3, 2, 0, 1};
         for (int what = 0; what <= 8; what++) {
             due.is("tunneller " + what, maze.tunneller(0, what), want[what]);
-        }
-    }
-
-    private static void tunnellerWrong() {
-        SnowMaze maze = new SnowMaze();
-        due.bounds(maze, "tunneller where nobody is", () -> maze.tunneller(0, 0));
-        maze.come(5, 5, 0, 0);
-        for (int bad : new int[] {-1, 1, 7, 8, Integer.MIN_VALUE, Integer.MAX_VALUE}) {
-            due.bounds(maze, "tunneller(" + bad + ", 0)", () -> maze.tunneller(bad, 0));
-        }
-        for (int bad : new int[] {-1, 9, Integer.MIN_VALUE, Integer.MAX_VALUE}) {
-            due.bounds(maze, "tunneller(0, " + bad + ")", () -> maze.tunneller(0, bad));
         }
     }
 }

@@ -1,4 +1,5 @@
-import java.util.function.IntSupplier;
+import java.util.function.Supplier;
+import java.util.function.ToIntFunction;
 
 /** Counts the calls whose answer is not the one that is due, and prints them. */
 final class Due {
@@ -19,33 +20,40 @@ final class Due {
         }
     }
 
-    /** The call throws an exception of just this class, and the maze is as it was. */
-    void fails(SnowMaze maze, String call, Class<? extends RuntimeException> want, IntSupplier made) {
+    /** Both mazes are alike, and stay so while ticks go by. */
+    void alike(String what, SnowMaze one, SnowMaze other) {
         asked++;
-        String before = Picture.of(maze);
+        if (!Mazes.story(one).equals(Mazes.story(other))) {
+            report(what + ": a difference");
+        }
+    }
+
+    /** The call throws an exception of just this class, and the maze goes on like one that was never asked. */
+    void refuses(Class<? extends RuntimeException> want, Supplier<SnowMaze> made, String call,
+            ToIntFunction<SnowMaze> asking) {
+        asked++;
+        SnowMaze maze = made.get();
         try {
-            int got = made.getAsInt();
+            int got = asking.applyAsInt(maze);
             report(call + " answered " + got + ", due is " + want.getName());
         } catch (RuntimeException thrown) {
             if (thrown.getClass() != want) {
                 report(call + " threw " + thrown.getClass().getName() + ", due is " + want.getName());
             }
         }
-        if (!Picture.of(maze).equals(before)) {
-            report(call + " changed something");
-        }
+        alike("after the refused " + call, maze, made.get());
     }
 
-    void bounds(SnowMaze maze, String call, IntSupplier made) {
-        fails(maze, call, IndexOutOfBoundsException.class, made);
+    void bounds(Supplier<SnowMaze> made, String call, ToIntFunction<SnowMaze> asking) {
+        refuses(IndexOutOfBoundsException.class, made, call, asking);
     }
 
-    void argument(SnowMaze maze, String call, IntSupplier made) {
-        fails(maze, call, IllegalArgumentException.class, made);
+    void argument(Supplier<SnowMaze> made, String call, ToIntFunction<SnowMaze> asking) {
+        refuses(IllegalArgumentException.class, made, call, asking);
     }
 
-    void state(SnowMaze maze, String call, IntSupplier made) {
-        fails(maze, call, IllegalStateException.class, made);
+    void state(Supplier<SnowMaze> made, String call, ToIntFunction<SnowMaze> asking) {
+        refuses(IllegalStateException.class, made, call, asking);
     }
 
     private void report(String text) {

@@ -6,8 +6,7 @@ public final class SnowTest {
         newObject();
         layAnswersWhatWas();
         layClearsPostAndAge();
-        layWrong();
-        layWhereSomebodyIs();
+        layWhereSomebodyWas();
         cellSortAgePost();
         cellHeld();
         cellHeldOnlyOverOpenCells();
@@ -15,7 +14,6 @@ public final class SnowTest {
         cellLitSnowAndIce();
         cellCrew();
         cellsAtTheCorners();
-        cellWrong();
         due.end();
     }
 
@@ -81,39 +79,16 @@ public final class SnowTest {
         }
     }
 
-    private static void layWrong() {
+    private static void layWhereSomebodyWas() {
         SnowMaze maze = new SnowMaze();
-        maze.come(2, 2, 0, 1);
-        int[] outside = {-1, 16, 17, -16, 256, Integer.MIN_VALUE, Integer.MAX_VALUE};
-        for (int bad : outside) {
-            due.bounds(maze, "lay(" + bad + ", 0, 0)", () -> maze.lay(bad, 0, 0));
-            due.bounds(maze, "lay(0, " + bad + ", 0)", () -> maze.lay(0, bad, 0));
-            due.bounds(maze, "lay(" + bad + ", 0, 11)", () -> maze.lay(bad, 0, 11));
-            due.bounds(maze, "lay(0, " + bad + ", -1)", () -> maze.lay(0, bad, -1));
-        }
-        for (int bad : new int[] {-1, 11, Integer.MIN_VALUE, Integer.MAX_VALUE}) {
-            due.argument(maze, "lay(0, 0, " + bad + ")", () -> maze.lay(0, 0, bad));
-            due.argument(maze, "lay where somebody is, " + bad, () -> maze.lay(2, 2, bad));
-        }
-    }
-
-    private static void layWhereSomebodyIs() {
-        SnowMaze maze = new SnowMaze();
-        maze.come(2, 2, 0, 0);
-        for (int sort = 0; sort <= 10; sort++) {
-            int laid = sort;
-            due.state(maze, "lay on a tunneller " + sort, () -> maze.lay(2, 2, laid));
-        }
-        due.is("lay beside a tunneller", maze.lay(3, 2, 1), 3);
-        maze.pass(12);
-        due.is("buried", maze.tunneller(0, 7), 1);
-        due.state(maze, "lay on a buried one", () -> maze.lay(2, 2, 0));
         maze.come(8, 8, 0, 0);
-        maze.lay(8, 9, 0);
-        maze.order(1, 2, 1);
+        due.is("lay beside a tunneller", maze.lay(8, 9, 0), 3);
+        maze.order(0, 2, 1);
         maze.pass(1);
         due.is("lay where somebody was", maze.lay(8, 8, 4), 0);
-        due.state(maze, "lay where somebody went", () -> maze.lay(8, 9, 4));
+        maze.pass(11);
+        due.is("buried", maze.tunneller(0, 7), 1);
+        due.is("lay beside a buried one", maze.lay(8, 8, 10), 4);
     }
 
     private static void cellSortAgePost() {
@@ -262,17 +237,6 @@ public final class SnowTest {
             maze.pass(20);
             due.is("one of both fell", maze.count(3), 1);
             due.is("it is the other one", maze.cell(x, y, 0), 0);
-        }
-    }
-
-    private static void cellWrong() {
-        SnowMaze maze = new SnowMaze();
-        for (int bad : new int[] {-1, 16, 255, Integer.MIN_VALUE, Integer.MAX_VALUE}) {
-            due.bounds(maze, "cell(" + bad + ", 0, 0)", () -> maze.cell(bad, 0, 0));
-            due.bounds(maze, "cell(0, " + bad + ", 0)", () -> maze.cell(0, bad, 0));
-        }
-        for (int bad : new int[] {-1, 6, Integer.MIN_VALUE, Integer.MAX_VALUE}) {
-            due.bounds(maze, "cell(0, 0, " + bad + ")", () -> maze.cell(0, 0, bad));
         }
     }
 }

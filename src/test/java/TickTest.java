@@ -3,7 +3,6 @@ public final class TickTest {
     private static final Due due = new Due();
 
     public static void main(String[] args) {
-        passWrong();
         passIsTickByTick();
         oilBurns();
         oilIsBurntBeforeAllDeeds();
@@ -26,21 +25,7 @@ public final class TickTest {
         buriedAreFreed();
         freedInTheSameTick();
         counts();
-        countWrong();
         due.end();
-    }
-
-    private static void passWrong() {
-        SnowMaze maze = new SnowMaze();
-        maze.come(3, 3, 1, 2);
-        maze.order(0, 1, 5);
-        for (int bad : new int[] {-1, 0, 101, Integer.MIN_VALUE, Integer.MAX_VALUE}) {
-            due.argument(maze, "pass(" + bad + ")", () -> maze.pass(bad));
-        }
-        maze.pass(1);
-        due.is("tick", maze.count(0), 1);
-        maze.pass(100);
-        due.is("tick", maze.count(0), 101);
     }
 
     private static SnowMaze someMaze() {
@@ -529,14 +514,6 @@ public final class TickTest {
         int[] late = {12, 3, 1, 3, 1, 3, 3 + 2 + 3 + 2, 0, 1};
         for (int what = 0; what <= 8; what++) {
             due.is("count " + what + " at the tick 12", maze.count(what), late[what]);
-        }
-    }
-
-    private static void countWrong() {
-        SnowMaze maze = new SnowMaze();
-        maze.come(4, 4, 1, 5);
-        for (int bad : new int[] {-1, 9, Integer.MIN_VALUE, Integer.MAX_VALUE}) {
-            due.bounds(maze, "count(" + bad + ")", () -> maze.count(bad));
         }
     }
 }

