@@ -263,8 +263,8 @@ public final class AheadTest {
         due.is("digest of a new one", new SnowMaze().digest(), digested(numbers));
     }
 
-    private static SnowMaze busyMazeAt(int tick) {
-        SnowMaze maze = busyMaze();
+    private static SnowMaze fullMazeAt(int tick) {
+        SnowMaze maze = Mazes.full();
         maze.pass(tick);
         return maze;
     }
@@ -272,21 +272,21 @@ public final class AheadTest {
     /** Each row is read from an object of its own, since an object is used for 512 calls at most. */
     private static void digestOfAll() {
         for (int tick = 1; tick <= 100; tick += 9) {
-            long[] numbers = new long[9 + 3 * 256 + 9 * 3];
-            SnowMaze maze = busyMazeAt(tick);
+            long[] numbers = new long[9 + 3 * 256 + 9 * 8];
+            SnowMaze maze = fullMazeAt(tick);
             int at = 0;
             for (int what = 0; what <= 8; what++) {
                 numbers[at++] = maze.count(what);
             }
             for (int y = 0; y < 16; y++) {
-                SnowMaze row = busyMazeAt(tick);
+                SnowMaze row = fullMazeAt(tick);
                 for (int x = 0; x < 16; x++) {
                     for (int what = 0; what <= 2; what++) {
                         numbers[at++] = row.cell(x, y, what);
                     }
                 }
             }
-            for (int number = 0; number < 3; number++) {
+            for (int number = 0; number < 8; number++) {
                 for (int what = 0; what <= 8; what++) {
                     numbers[at++] = maze.tunneller(number, what);
                 }

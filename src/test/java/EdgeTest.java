@@ -270,25 +270,22 @@ public final class EdgeTest {
         due.is("no light", maze.count(6), 0);
     }
 
-    /** Who is buried without oil lights a lamp in the first tick that begins free. */
+    /** Who gets a first lamp in the very tick of being buried lights it in the first tick that begins free. */
     private static void oilOfTheFreed() {
         SnowMaze maze = new SnowMaze();
         maze.come(7, 7, 0, 0);
-        maze.pass(12);
+        maze.pass(11);
         maze.come(8, 7, 1, 4);
-        maze.order(1, 4, 1);
-        maze.pass(1);
-        due.is("buried", maze.tunneller(0, 7), 1);
-        maze.order(1, 3, 1);
-        maze.pass(2);
-        due.is("free", maze.tunneller(0, 7), 0);
         maze.order(1, 6, 1);
-        maze.pass(1);
-        due.is("a lamp is handed over", maze.tunneller(0, 3), 1);
-        due.is("not lit yet", maze.tunneller(0, 4), 0);
-        maze.pass(1);
-        due.is("lit", maze.tunneller(0, 4), 60);
-        due.is("no lamp in hand", maze.tunneller(0, 3), 0);
+        maze.order(1, 4, 1);
+        maze.order(1, 3, 1);
+        int[][] buriedLampsOil = {{1, 1, 0}, {1, 1, 0}, {1, 1, 0}, {0, 1, 0}, {0, 0, 60}, {0, 0, 59}};
+        for (int tick = 0; tick < 6; tick++) {
+            maze.pass(1);
+            due.is("buried at " + tick, maze.tunneller(0, 7), buriedLampsOil[tick][0]);
+            due.is("lamps at " + tick, maze.tunneller(0, 3), buriedLampsOil[tick][1]);
+            due.is("oil at " + tick, maze.tunneller(0, 4), buriedLampsOil[tick][2]);
+        }
     }
 
     /** By at most 3 steps over open cells side by side; a cell of snow, if an open cell side by side is lit. */
@@ -443,7 +440,7 @@ public final class EdgeTest {
         due.is("age of the old one", maze.cell(5, 5, 1), 40001);
     }
 
-    /** At least 12 old: what is older, and held no longer, comes down in the next tick; the cell laid anew 12 ticks on. */
+    /** At least 12 old: what is older, and held no longer, comes down at the next tick; what is laid anew, at 12. */
     private static void oldRoofLosesItsPost() {
         SnowMaze maze = new SnowMaze();
         maze.lay(6, 5, 0);
