@@ -130,39 +130,24 @@ public final class AheadTest {
         due.is("nothing is changed", maze.count(0), 0);
     }
 
-    private static SnowMaze busyMaze() {
-        SnowMaze maze = new SnowMaze();
-        maze.come(4, 4, 3, 2);
-        maze.come(8, 4, 0, 1);
-        maze.come(6, 7, 1, 5);
-        maze.lay(4, 3, 10);
-        maze.order(0, 1, 9);
-        maze.order(1, 3, 2);
-        maze.order(1, 6, 1);
-        maze.order(2, 4, 1);
-        maze.order(2, 0, 3);
-        maze.order(2, 6, 2);
-        return maze;
-    }
-
     private static void foreseeIsWhatComes() {
-        SnowMaze asked = busyMaze();
-        SnowMaze passed = busyMaze();
+        SnowMaze asked = Mazes.full();
+        SnowMaze passed = Mazes.full();
         passed.pass(1);
-        for (int ticks = 1; ticks <= 100; ticks += 3) {
+        for (int ticks = 1; ticks <= 100; ticks += 5) {
             due.is("buried", asked.foresee(ticks, 0), passed.count(2));
             due.is("open", asked.foresee(ticks, 1), passed.count(3));
             int oil = 0;
             int orders = 0;
-            for (int number = 0; number < 3; number++) {
+            for (int number = 0; number < 8; number++) {
                 oil += passed.tunneller(number, 4);
                 orders += passed.tunneller(number, 5);
             }
             due.is("oil", asked.foresee(ticks, 2), oil);
             due.is("orders", asked.foresee(ticks, 3), orders);
-            passed.pass(3);
+            passed.pass(5);
         }
-        due.is("nothing is changed", asked.digest(), busyMaze().digest());
+        due.alike("nothing is changed", asked, Mazes.full());
     }
 
     /** What was foreseen before leaves nothing behind, neither for the next look nor for the calls. */

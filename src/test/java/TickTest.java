@@ -28,30 +28,16 @@ public final class TickTest {
         due.end();
     }
 
-    private static SnowMaze someMaze() {
-        SnowMaze maze = new SnowMaze();
-        maze.come(3, 3, 3, 2);
-        maze.come(7, 3, 0, 1);
-        maze.come(5, 5, 1, 5);
-        maze.order(0, 1, 9);
-        maze.order(1, 3, 2);
-        maze.order(1, 6, 1);
-        maze.order(2, 4, 1);
-        maze.order(2, 0, 3);
-        maze.order(2, 6, 2);
-        return maze;
-    }
-
     private static void passIsTickByTick() {
-        SnowMaze once = someMaze();
-        SnowMaze often = someMaze();
+        SnowMaze once = Mazes.full();
+        SnowMaze often = Mazes.full();
         int opened = once.pass(60);
         int sum = 0;
         for (int i = 0; i < 60; i++) {
             sum += often.pass(1);
         }
         due.is("opened", sum, opened);
-        due.is("the same state", often.digest(), once.digest());
+        due.alike("at once or tick by tick", often, once);
     }
 
     private static void oilBurns() {
